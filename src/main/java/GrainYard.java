@@ -280,7 +280,7 @@ public final class GrainYard {
 
     /** Places and the paths between them; and how rows of grains fall there. */
     private static final class Yard {
-        // Sweeps over a line of 8 places, the slowest yard, are some hundreds.
+        // The slowest yards (8 places, one path to the hole) take less than a thousand sweeps.
         static final int MOST_SWEEPS = 1000000;
 
         final int places;
@@ -463,11 +463,11 @@ public final class GrainYard {
         }
 
         private static int targetIn(long tree, int place) {
-            return (int) (tree >>> BITS_OF_PLACE * (place - 1)) & 7;
+            return (int) (tree >>> (BITS_OF_PLACE * (place - 1))) & 7;
         }
 
         private static int pathIn(long tree, int place) {
-            return (int) (tree >>> BITS_OF_PLACE * (place - 1) + 3) & 3;
+            return (int) (tree >>> (BITS_OF_PLACE * (place - 1) + 3)) & 3;
         }
 
         /** Rounds by the places' ways to the hole. False: it is no tree. */
