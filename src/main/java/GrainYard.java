@@ -280,7 +280,7 @@ public final class GrainYard {
 
     /** Places and the paths between them; and how rows of grains fall there. */
     private static final class Yard {
-        // The slowest yards (8 places, one path to the hole) take less than a thousand sweeps.
+        // The slowest yards (8 places, one path to the hole) take about a thousand sweeps.
         static final int MOST_SWEEPS = 1000000;
 
         final int places;
